@@ -140,7 +140,7 @@ public final class CrierOfBorough {
         if (!isTold || !within(wanted, 0, ALL_THINGS)) {
             return BAD;
         }
-        return now.people < PEOPLE ? now.settle(kindMore, where, wanted) : FULL;
+        return now.settle(kindMore, where, wanted);
     }
 
     public int put(int p, int what, int v) {
@@ -600,8 +600,14 @@ public final class CrierOfBorough {
         return (set >> place & 1) != 0;
     }
 
+    /** The least THING of a set, or NONE. */
     private static int firstOf(int set) {
-        return set == 0 ? NONE : Integer.numberOfTrailingZeros(set);
+        for (int t = 0; t < THINGS; t++) {
+            if (isIn(set, t)) {
+                return t;
+            }
+        }
+        return NONE;
     }
 
     private static int mostOfBorough(int what) {
@@ -843,6 +849,9 @@ public final class CrierOfBorough {
         }
 
         int settle(int kindMore, int where, int wants) {
+            if (people >= PEOPLE) {
+                return FULL;
+            }
             int p = people;
             kind[p] = kindMore / MORES;
             more[p] = kindMore % MORES;

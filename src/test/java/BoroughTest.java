@@ -191,6 +191,9 @@ public final class BoroughTest {
         faultInside("", "or 1");
         faultInside("1 and ", "");
         faultInside("1 or ", "or 2");
+        for (String behind : new String[] {"1 or ", "not ", "1 < ", "1 = ", "1 + ", "1 - ", "1 * ", "- ", "( ", "(1) or not "}) {
+            faultInside(behind, "");
+        }
         faultInside("(1 + 2", "");
         faultInside("1 + 2", ")");
         faultInside("(", ")");
@@ -295,6 +298,8 @@ public final class BoroughTest {
         due.is("8 curious of another", x.asks(0, 1, 4), 26);
         due.is("8 of another thing", x.asks(0, 1, 3), 6);
         due.is("8 of none", x.asks(0, 1, -1), 6);
+        x.borough(12, 7);
+        due.is("8 of the last", x.asks(0, 1, 9), 13);
         due.is("8 dreads, bound", x.asks(1, 0, 4), 0);
         due.is("8 goes by the thing of the call, bound", x.asks(2, 0, 4), -99);
         x.borough(7, 90);
@@ -330,7 +335,7 @@ public final class BoroughTest {
         }
         CrierOfBorough y = new CrierOfBorough();
         y.image();
-        y.citizen(59, 8, 1023);
+        due.is("9 the most", y.citizen(59, 8, 1023), 0);
         y.put(0, 2, 1023);
         y.put(0, 3, 0);
         y.back();
@@ -433,6 +438,9 @@ public final class BoroughTest {
         x.put(0, 2, 1);
         due.is("11 by known and wanted", x.told(0, 6), 0b1110000000);
         due.is("11 goes, the bound", x.told(0, 8), 1099);
+        Due.law(x, "curious 20;dreads 10;goes bad-99*(bad=0);");
+        due.is("11 goes: bad of none is 0", x.told(0, 8), 1000 - 99);
+        Due.law(x, "curious 20;dreads 10;goes 99;");
         due.is("11 a DEAF goes less", x.told(2, 8), 1000 - 99);
         due.is("11 a HUMMER goes MORE more", x.told(4, 8), 1000 - 99 + 2);
     }

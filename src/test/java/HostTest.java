@@ -157,6 +157,8 @@ public final class HostTest {
         due.is("36 a byte is -128 .. 127", y.peopleBy(0, 0, 0, 2), 1);
         due.is("36 wanted", y.told(0, 1), 127);
         y.sheet(1, 2, 18);
+        y.sheet(3, 2, 3);
+        due.is("36 of the last sheet", y.peopleBy(3, 2, 0, 0), 0);
         due.is("36 six of ints", y.peopleBy(1, 2, 0, 6), 5);
     }
 

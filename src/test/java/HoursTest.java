@@ -141,6 +141,13 @@ public final class HoursTest {
         for (int what : new int[] {3, 9, 12, 19, 22, 25, 30, MIN + 10, MIN + 20}) {
             due.is("14 what " + what, x.run(3, what), -2);
         }
+        CrierOfBorough y = oneAtNought(0);
+        y.citizen(43, 0, 0);
+        y.citizen(21, 1, 0);
+        due.is("14 MORE of a HUMMER", y.run(2, 11), 6);
+        due.is("14 MORE of a DEAF at hour 1", y.run(2, 22), 0);
+        y.borough(0, 1);
+        due.is("14 MORE of a DEAF at hour 2, with none cried to the HUMMER", y.run(2, 22), 0b1);
         Due.law(x, "curious 50;dreads bad;goes 2;");
         due.is("14 who goes", x.run(3, 10), 6);
         x.borough(0, 9990);
@@ -262,6 +269,11 @@ public final class HoursTest {
         due.is("18 as so", y.run(2, 1), 1);
         due.is("18 up: he hears it, tells the DEAF, who has enough", y.windows(2, 0), 0);
         due.is("18 up", y.windows(2, 1), 2);
+        CrierOfBorough z = new CrierOfBorough();
+        for (int p = 0; p < 6; p++) {
+            z.citizen(0, p < 5 ? 3 : 0, 1023);
+        }
+        due.is("18 the last of six", z.windows(1, 0), 5);
         due.is("18 nobody there", new CrierOfBorough().windows(3, 0), -1);
         for (int far : FAR) {
             due.is("18 n " + far, x.windows(far, 0), -7);
@@ -283,6 +295,8 @@ public final class HoursTest {
         due.is("19 nobody need", x.hush(3, 4, 1), 0);
         due.is("19 another corner", x.hush(4, 5, 0), 0b1000);
         due.is("19 nobody there", x.hush(5, 5, 0), 0);
+        due.is("19 the first corner and thing", x.hush(0, 0, 0), 0);
+        due.is("19 the last corner and thing", x.hush(8, 9, 0), 0);
         x.borough(2, 0);
         due.is("19 of news or not", x.hush(3, 5, 0), 0b101);
         x.put(0, 3, 0);
@@ -361,6 +375,8 @@ public final class HoursTest {
         for (int part : new int[] {-1, 2, MIN, MAX}) {
             due.is("21 part " + part, x.mean(part), CrierOfBorough.NO);
         }
+        x.borough(2, 1);
+        due.is("21 one: 99 by 1", x.mean(0), 99);
         x.borough(2, 0);
         due.is("21 there are none", x.mean(0), CrierOfBorough.NO);
         due.is("21 there are none", x.mean(1), CrierOfBorough.NO);

@@ -189,6 +189,7 @@ public final class ToldTest {
         due.is("28 0", x.film(3, 0), 0);
         due.is("28 0 numbers", x.cell(3, 0, 0), -12);
         due.is("28 a missing one", x.film(2, 1), 1);
+        due.is("28 the first sheet", x.film(0, 1), 1);
         for (int s : new int[] {-1, 4, MIN, MAX}) {
             due.is("28 sheet " + s, x.film(s, 1), -2);
             due.is("28 sheet ahead of n " + s, x.film(s, 21), -2);
