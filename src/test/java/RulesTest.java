@@ -127,12 +127,12 @@ public final class RulesTest {
 
     private static void room() {
         com.sun.management.ThreadMXBean bean = (com.sun.management.ThreadMXBean) ManagementFactory.getThreadMXBean();
-        CrierOfBorough x = full();
-        dearest(x);
+        CrierOfBorough[] all = {full(), full(), full(), full()};
+        dearest(full());
         long id = Thread.currentThread().getId();
         long before = bean.getThreadAllocatedBytes(id);
         for (int i = 0; i < 40; i++) {
-            dearest(x);
+            dearest(all[i % all.length]);
         }
         long made = bean.getThreadAllocatedBytes(id) - before;
         rule(made < 20000, "calls made " + made + " bytes");
