@@ -105,6 +105,15 @@ public final class HoursBoundsTest {
             run 0,40 0,1 = 0
             run 40 2 = 1
             told 0..5 0 = 0 1 2 3 4 5
+            # MORE of each of six: one STRANGER goes 1 on, the last one 5, or 1, or 4
+            new
+            citizen 51,52,53,54,55 0 0 = 0 1 2 3 4
+            citizen 55 8 0 = 5
+            run 1 10..15 = 1 2 3 4 5 4
+            run 2 10..15 = 2 4 6 8 1 0
+            new
+            citizen 45,44,43,42,41,44 8 0 = 0 1 2 3 4 5
+            run 1 10..15 = 4 3 2 1 0 3
             """);
         of.say(14, "n HOURS (0 .. 40), in thought:", """
             # past 9999: a DEAF of MORE 1 doesn't hear at 10000 (modulo 3: 1), a WIFE wishes then, as 10000 is even

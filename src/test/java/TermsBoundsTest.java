@@ -589,6 +589,32 @@ public final class TermsBoundsTest {
             fault 'curious 1;dreads 2;goes 3; ' 'goes 3; @ 12345'
             wrong '1 + ' 'or @ 12345'
             wrong '1 ' '2 or @'
+            # a ; or a ) where there is more to come
+            wrong '' ';'
+            wrong '1 or ' ';'
+            wrong '1 and ' ';'
+            wrong 'not ' ';'
+            wrong '1 < ' ';'
+            wrong '1 = ' ';'
+            wrong '1 + ' ';'
+            wrong '1 - ' ';'
+            wrong '1 * ' ';'
+            wrong '- ' ';'
+            wrong '( ' ';'
+            wrong '(1 ' ';'
+            wrong '(1 or ' ')'
+            wrong '(1 and ' ')'
+            wrong '(not ' ')'
+            wrong '(1 < ' ')'
+            wrong '(1 = ' ')'
+            wrong '(1 + ' ')'
+            wrong '(1 - ' ')'
+            wrong '(1 * ' ')'
+            wrong '(- ' ')'
+            # .. and what may follow them in a TEXT
+            fault 'curious 1 or ' ';dreads 2;goes 3;'
+            fault 'curious 1;dreads 2 < ' ';goes 3;'
+            fault 'curious 1;dreads 2;goes 3 and ' ';'
             """);
         endsTooEarly();
         of.say(0, "of a WORD that is neither KEY nor NAME, a NUMBER that is too long,", """
