@@ -28,6 +28,16 @@ public final class BoroughTest {
         due.is("1 NO", CrierOfBorough.NO, -4611686018427387904L);
     }
 
+    /** "An object is used for at most 512 calls after it has been made": the 512th answers as the first. */
+    private static void lastCalls() {
+        CrierOfBorough x = new CrierOfBorough();
+        for (int i = 0; i < 510; i++) {
+            due.is("hour " + i, x.hour(), i < 10 ? i : -1);
+        }
+        due.is("the 511th call", x.crier(0), 510);
+        due.is("the 512th call", x.crier(1), 510 % 9);
+    }
+
     private static void count() {
         CrierOfBorough x = new CrierOfBorough();
         x.citizen(0, 0, 0);
@@ -500,6 +510,7 @@ public final class BoroughTest {
 
     public static void main(String[] args) {
         newObject();
+        lastCalls();
         count();
         borough();
         crier();

@@ -65,6 +65,11 @@ public final class RulesTest {
         }
         Collections.sort(constants);
         rule(constants.equals(List.of("int BAD", "int FULL", "int NONE", "int STATE", "long NO")), "the constants are " + constants);
+        rule(CrierOfBorough.NONE == -1, "NONE is -1");
+        rule(CrierOfBorough.BAD == -2, "BAD is -2");
+        rule(CrierOfBorough.STATE == -3, "STATE is -3");
+        rule(CrierOfBorough.FULL == -4, "FULL is -4");
+        rule(CrierOfBorough.NO == -4611686018427387904L, "NO is -4611686018427387904");
         inside(c);
     }
 
