@@ -73,6 +73,26 @@ public final class RulesTest {
         inside(c);
     }
 
+    /** The interface of DOC.md line by line: names, parameters, what is returned, the constants' values. */
+    private static void interfaceOfDocument() throws Exception {
+        String document = Files.readString(Path.of("..", "shared", "DOC.md"));
+        String source = Files.readString(Path.of("src/main/java/CrierOfBorough.java"));
+        int start = document.indexOf("```java") + 7;
+        String face = document.substring(start, document.indexOf("```", start));
+        int many = 0;
+        for (String line : face.split("\n")) {
+            String bare = line.strip();
+            if (!bare.startsWith("public")) {
+                continue;
+            }
+            many++;
+            boolean isMethod = bare.endsWith(");");
+            String want = isMethod ? bare.substring(0, bare.length() - 1) + " {" : bare;
+            rule(source.contains("\n" + (many == 1 ? "" : "    ") + want + "\n"), "the source has " + want);
+        }
+        rule(many == 4 + FACE.length, many + " lines of the face");
+    }
+
     private static void inside(Class<?> c) {
         rule(c.getDeclaredClasses().length <= 11, "some twelve classes at most");
         for (Class<?> inside : c.getDeclaredClasses()) {
@@ -149,6 +169,7 @@ public final class RulesTest {
 
     public static void main(String[] args) throws Exception {
         face();
+        interfaceOfDocument();
         source();
         room();
         System.out.println("RulesTest: " + wrong + " rules broken");
